@@ -14,6 +14,7 @@ public final class FordWord {
 
     private static final int MILLION = 1000000;
     private static final int TEN = 10;
+    private static final int LOWEST_31_BITS = 0x7fffffff;
     private static final int FINE = 0;
 
     private static final int SOUNDS = 6;
@@ -529,7 +530,7 @@ public final class FordWord {
 
         /** Draws once more: a number below a MILLION. */
         int nextDraw() {
-            draw = draw * 1103515245 + 12345 & Integer.MAX_VALUE;
+            draw = (draw * 1103515245 + 12345) & LOWEST_31_BITS;
             return draw / 16 % MILLION;
         }
 
@@ -781,7 +782,7 @@ public final class FordWord {
         }
 
         private int leastFor(int set, int turn) {
-            int best = Integer.MAX_VALUE;
+            int best = MOST_SPEAKERS * MILLION;
             for (int speaker = 0; speaker < ford.speakers; speaker++) {
                 if (has(set, speaker)) {
                     best = Math.min(best, wrongsIfNext(speaker, set, turn));
@@ -873,7 +874,7 @@ public final class FordWord {
         int unluckiestHeardWrong() {
             Book book = ford.moment.book;
             int unluckiest = NONE;
-            int leastLuck = Integer.MAX_VALUE;
+            int leastLuck = MILLION + 1;
             for (int entry = 0; entry < book.length; entry++) {
                 int luck = book.fate[entry] == OVER ? book.pass[entry] : MILLION - book.pass[entry];
                 if (isHeardWrong(entry) && luck < leastLuck) {

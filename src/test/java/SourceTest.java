@@ -13,6 +13,7 @@ public final class SourceTest {
         "^\\s*package\\b", "^\\s*import\\b", "->", "::", "\\bcatch\\b", "\\btry\\b", "\\bfinally\\b", "\\bthrow\\b",
         "\\bsynchronized\\b", "\\bassert\\b", "\\bstatic\\s*\\{", "\\bdouble\\b", "\\bfloat\\b", "\\bObject\\b",
         "\\bExact\\w*\\(", "\\w+Exact\\(", "\\bSystem\\.(?!arraycopy\\b)", "\\bMath\\.(?!max\\b|min\\b)",
+        "\\bInteger\\.(?!bitCount\\b)",
         "\\b(equals|hashCode|toString)\\s*\\(", "\"\\s*\\+", "\\+\\s*\"", "\\bnew\\s+Random\\b", "\\bThread\\b"};
 
     private static final Due DUE = new Due();
