@@ -15,6 +15,10 @@ final class Due {
         is(what, holds ? 1 : 0, 1);
     }
 
+    int calls() {
+        return calls;
+    }
+
     int wrong() {
         return wrong;
     }
