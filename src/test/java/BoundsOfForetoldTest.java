@@ -310,6 +310,19 @@ public final class BoundsOfForetoldTest {
             S.is("how much", f.cross(0, 0, 1), 200000);
             S.is("HOUR stays", f.count(4), 1);
         });
+        S.holds(22, "not the HOUR ahead of now, better as it was; the very next one", () -> {
+            FordWord f = Fords.told("9;m0999999,p0999999;a");
+            teach(f, 1, 0, 1, 2, 3);
+            S.is("heard by 8 from HOUR 4 on", f.cross(1, 0, 0), 4);
+            S.is("how much", f.cross(1, 0, 1), 740000);
+            FordWord next = six("m0999999", "a");
+            next.guard(1, 24);
+            for (int many = 0; many < 23; many++) {
+                next.teach(many / 6, many % 6);
+            }
+            S.is("heard by 8 from HOUR 24 on", next.cross(0, 0, 0), 24);
+            S.is("how much", next.cross(0, 0, 1), 200000);
+        });
         S.holds(22, "'of like ones the first': all like; 0 heard from some HOUR on", () -> {
             S.is("heard by any", Fords.told("9;p0555555;abc").cross(0, 0, 0), 0);
             FordWord f = Fords.told("2;m0999999;a");
@@ -447,6 +460,15 @@ public final class BoundsOfForetoldTest {
             S.is("WORN by 2: 2 .. 5", f.line(0, -1), 3 * 100000);
             f.said(2, 0, 0);
             S.is("WORN by 3: 3 .. 5", f.line(0, -1), 3 * 100000);
+        });
+        S.holds(23, "each turn by its own HOUR: a middle one first, the last one in the middle", () -> {
+            // heard by 10, 9, 8: 0 lacks 400000, 420000, 440000, 2 lacks 100000, 180000, 260000; the MUTE one of BANK 1
+            // passes by 0, 100000, 200000
+            FordWord f = Fords.told("9;p0666666,m1000000,p0999999;a");
+            f.guard(0, 10);
+            f.guard(1, 1);
+            S.is("how much", f.line(0, -1), 180000 + 440000);
+            order(f, 1, 2, 0);
         });
         S.holds(23, "the best order is not by numbers: the last comes first", () -> {
             // heard by 10, then by 9: MUTE of BANK 1 loses least by being first
@@ -772,6 +794,28 @@ public final class BoundsOfForetoldTest {
             S.is("undo", f.undo(), 0);
             S.is("TAUGHT", f.of(2, 3), 0);
             S.is("undo", f.undo(), NONE);
+        });
+        S.holds(27, "THE BOOK of then: who, what PASS was, what came", () -> {
+            FordWord f = Fords.told("9;p1999999,p1222222,p1555555;a");
+            f.said(2, 0, 1);
+            f.said(1, 0, 1);
+            f.said(0, 0, 0);
+            f.image();
+            f.undo();
+            f.undo();
+            f.undo();
+            f.can(1, 0, 9);
+            f.can(0, 0, 0);
+            f.said(1, 0, 1);
+            f.said(0, 0, 1);
+            f.said(2, 0, 0);
+            S.is("now", f.heardWrong(1), 0);
+            f.restore();
+            S.is("how many", f.heardWrong(0), 2);
+            S.is("260000, not 500000", f.heardWrong(1), 1);
+            f.undo();
+            f.undo();
+            S.is("the first of all", f.heardWrong(1), 2);
         });
         S.holds(27, "TONGUES in between leave nothing of theirs", () -> {
             FordWord f = Fords.of(Fords::crowd);

@@ -143,5 +143,31 @@ public final class InsideTest {
         f.undo();
         S.is("UNDONE", f.heardWrong(0), 3);
         S.is("UNDONE", f.count(9), 12);
+        bookKeepsPass();
+    }
+
+    /** All are HEARD WRONG; LUCK is least of the second one, then of the fourth, then of those behind. */
+    private static void bookKeepsPass() {
+        FordWord f = Fords.told("9;p1555555,p1111111,p1555555,p1222222,p1555555,p1555555;a");
+        for (int entry = 0; entry < 15; entry++) {
+            if (entry % 6 == 0) {
+                allWaitAgain(f);
+            }
+            if (entry == 6) {
+                f.can(1, 0, 5);
+                f.can(3, 0, 5);
+                f.can(4, 0, 3);
+            }
+            f.rest();
+            f.said(entry % 6, 0, 1);
+            S.is("who, of " + entry, f.heardWrong(1), entry == 0 ? 0 : entry < 13 ? 1 : 3);
+        }
+        S.is("entries", f.count(9), 12);
+        f.undo();
+        f.undo();
+        S.is("UNDONE", f.heardWrong(1), 3);
+        f.undo();
+        f.undo();
+        S.is("UNDONE, the second is back", f.heardWrong(1), 1);
     }
 }

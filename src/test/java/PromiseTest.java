@@ -281,8 +281,6 @@ public final class PromiseTest {
     }
 
     private static void p9Faults() {
-        FordWord f = told("8;p0555555,c1444444;ab");
-        f.teach(0, 0);
         Object[][] faults = {
             {"", 0}, {" ", 1}, {"   ", 3}, {"x", 0}, {"  x", 2}, {"9", 1}, {"9  ", 3}, {"9,", 1}, {"9 ,", 2}, {"99", 1},
             {"9;", 2}, {"9;;", 2}, {"9;q", 2}, {"9;P", 2}, {"9;p", 3}, {"9;p2", 3}, {"9;p  2", 5}, {"9;pp", 3},
@@ -296,6 +294,8 @@ public final class PromiseTest {
             {"9;p0111111,p0111111,p0111111,p0111111,p0111111,p0111111,p0111111;a", 55},
         };
         for (Object[] fault : faults) {
+            FordWord f = told("8;p0555555,c1444444;ab");
+            f.teach(0, 0);
             due("fault of '" + fault[0] + "'", tongues(f, (String) fault[0]), -20 - (Integer) fault[1]);
             due("all else stays", f.count(0) * 1000 + f.count(1) * 100 + f.count(2) * 10 + f.count(4), 2181);
             due("undo stays", f.count(10), 1);
